@@ -851,7 +851,7 @@ public final class LinesTouched {
             return mostPairs(next, part, part);
         }
 
-        /** The same, while on each side some surely have 1 (full) and some 0 (bare). */
+        /** The same, while on each side some surely have 1 (full), and 0 those that are neither full nor free. */
         private int leastWith(int[] next, int leftFull, int leftFree, int rightFull, int rightFree) {
             int sure = Integer.bitCount(leftFull) + Integer.bitCount(rightFull);
             return sure + mostPairs(next, leftFree, rightFree);
@@ -1036,12 +1036,12 @@ public final class LinesTouched {
         }
 
         /** How many covers of a size have all of one set and none of another. */
-        int howManyOf(Net net, int size, int within, int outside) {
+        int howManyOf(Net net, int size, int inside, int outside) {
             int all = net.all();
             int found = 0;
             spread(net);
             for (int set = 0; set <= all; set++) {
-                if ((set & within) != within || (set & outside) != 0) continue;
+                if ((set & inside) != inside || (set & outside) != 0) continue;
                 if (Integer.bitCount(set) == size && coversWithout(all ^ set)) found++;
             }
             return found;
@@ -1314,6 +1314,14 @@ public final class LinesTouched {
             return true;
         }
 
+        void lastIsOf(int kind) {
+            if (size > 0) kinds[size - 1] = kind;
+        }
+
+        void lastWeighs(int weight) {
+            if (size > 0) weights[size - 1] = weight;
+        }
+
         int price(int v) {
             int lines = v == 0 ? 0 : 1;
             for (int u = v + 1; u < size; u++) {
@@ -1442,12 +1450,12 @@ public final class LinesTouched {
             if (isLetter(b) && came == OPENED) {
                 int kind = kindOf(from, to);
                 if (kind < 0) return WRONG;
-                out.kinds[out.size - 1] = kind;
+                out.lastIsOf(kind);
                 return NAMED;
             }
             if (isDigit(b) && (came == OPENED || came == NAMED)) {
                 if (to - from != 1 || b == '0') return WRONG;
-                out.weights[out.size - 1] = b - '0';
+                out.lastWeighs(b - '0');
                 return INSIDE;
             }
             return WRONG;

@@ -321,6 +321,11 @@ public final class PromisesTest {
             row(x, 0, i % 3, rows[i]);
             due(24, "row " + i, x.packs(0), answers[i]);
         }
+        LinesTouched four = whole(4);
+        row(four, 0, 0, 15);
+        due(24, "no set of four", four.packs(0), -100);
+        row(four, 0, 0, 12, 3);
+        due(24, "two twos", four.packs(0), 2);
         due(24, "bad", x.packs(4), BAD);
         due(24, "bad", x.packs(-1), BAD);
     }
@@ -370,6 +375,11 @@ public final class PromisesTest {
             row(x, 1, i % 3, rows[i]);
             due(28, "row " + i, x.proves(1, 2), answers[i]);
         }
+        LinesTouched twelve = whole(12);
+        row(twelve, 0, 0, 11, -1, -1);
+        due(28, "any point may branch, the last one, too", twelve.proves(0, 6), 0);
+        row(twelve, 0, 0, 12, -1, -1);
+        due(28, "no such point", twelve.proves(0, 6), 1);
         LinesTouched y = net(3, 0, 1);
         row(y, 0, 2, 2);
         due(28, "a point without a line", y.proves(0, 0), 1);
@@ -441,10 +451,10 @@ public final class PromisesTest {
         LinesTouched x = new LinesTouched();
         String[] texts = {"", "   ", "()", "(", "(point)", "(pointt)", "(poin)", "(5)", "(0)", "(10)", "(01)",
             "(5 toll)", "(toll 5)", "(toll5)", "(5toll)", "(5 5)", "(toll toll)", "(()5)", "(()toll)", "()x", "()()",
-            "() ", " ( ) ", "())", ")", "a", "5", "(A)", "(\t)", "(()", "(toll", "(() (9(club)) (warden 3))"};
+            "() ", " ( ) ", "())", ")", "a", "5", "(A)", "(\t)", "(tollz)", "(toll`)", "(toll{)", "(9:)", "(9/)", "(Z", "(()", "(toll", "(() (9(club)) (warden 3))"};
         int[] answers = {-100, -103, 1, -101, 1, -101, -101, 1, -101, -101, -101,
             -103, 1, 1, -102, -103, -106, -103, -103, -102, -102,
-            1, 1, -102, -100, -100, -100, -101, -101, -103, -105, 5};
+            1, 1, -102, -100, -100, -100, -101, -101, -101, -105, -105, -102, -102, -101, -103, -105, 5};
         for (int i = 0; i < texts.length; i++) {
             due(36, "'" + texts[i] + "'", read(x, texts[i]), answers[i]);
             due(36, "the tape is empty", x.count(3), 0);
