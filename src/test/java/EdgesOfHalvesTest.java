@@ -159,6 +159,10 @@ public final class EdgesOfHalvesTest {
         LinesTouched two = Check.net(8, 1, 0, 1, 2, 1, 3, 5, 4, 5, 6, 5, 7);
         CHECK.dues(i -> two.round(2, i, 1), 2, 1, 4, 8, 32, 16, 64, 128, BAD);
         CHECK.dues(i -> two.round(2, i, 0), 1, 0, 0, 0, 1, 0, 0, 0, BAD);
+        CHECK.says(21, "RULE 1: than k is by then, not than it was at first");
+        LinesTouched less = Check.net(9, 0, 1, 0, 2, 0, 3, 0, 4, 5, 6, 5, 7, 5, 8);
+        CHECK.dues(i -> less.round(3, i, 0), 1, 0, 0, 0, 0, 1, 0, 0, 0, BAD);
+        CHECK.dues(i -> less.round(4, i, 0), 2, 0, 0, 0, 2, 0, 0, BAD);
         CHECK.says(21, "RULE 2: the other one is TAKEN, both go");
         CHECK.dues(w -> Check.path(2).round(1, 0, w), 2, 3, 2);
         CHECK.dues(w -> Check.path(2).kernel(1, w), 0, 2, 20, 1, 0);

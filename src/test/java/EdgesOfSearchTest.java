@@ -155,6 +155,13 @@ public final class EdgesOfSearchTest {
         star.line(1, 2, 1);
         CHECK.due(proves(star, 1, 3, 0, 1, -1, -1, -1, -1), 3);
         CHECK.due(proves(star, 1, 3, 0, -1, 1, -1, -1, -1), 0);
+        CHECK.says(28, "depth is 1 more in THE OTHER WAY, too: the order behind it at depth 1, at depth 2");
+        LinesTouched line = Check.net(5, 0, 1, 2, 3, 3, 4, 4, 2);
+        CHECK.due(proves(line, 0, 0, -1, 2, -1, 3, -1, -1), 0);
+        CHECK.due(proves(line, 0, 0, -1, 2, 3, -1, -1, -1), 4);
+        LinesTouched lines = Check.net(7, 0, 1, 2, 3, 4, 5, 5, 6, 6, 4);
+        CHECK.due(proves(lines, 0, 0, 2, 4, 5, -1, -1, -1, -1, -1), 0);
+        CHECK.due(proves(lines, 0, 0, 2, 4, -1, 5, -1, -1, -1, -1), 5);
         CHECK.says(28, "bytes and shorts are read as well");
         Check.row(x, 1, 0, 0, 255, 511);
         CHECK.due(x.proves(1, 2), 0);
