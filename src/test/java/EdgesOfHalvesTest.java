@@ -172,6 +172,11 @@ public final class EdgesOfHalvesTest {
         LinesTouched both = Check.net(7, 0, 1, 1, 2, 2, 0, 3, 4, 4, 5, 5, 6, 6, 3);
         CHECK.dues(w -> both.round(4, 0, w), 3, 8 + 16 + 32 + 64, 16 + 64);
         CHECK.dues(w -> both.kernel(4, w), 7, 80, 22, 1, 0);
+        CHECK.says(21, "RULE 3: THE HALVES of what is left, though the first POINTS have gone");
+        LinesTouched behind = Check.net(5, 1, 2, 2, 3, 3, 4, 4, 1);
+        CHECK.dues(i -> behind.round(2, i, 0), 0, 3, BAD);
+        CHECK.dues(i -> behind.round(2, i, 1), 1, 30, BAD);
+        CHECK.dues(i -> behind.round(2, i, 2), 0, 20, BAD);
         CHECK.says(21, "RULE 3 can't be done where none has 0");
         CHECK.due(Check.ring(5).kernel(3, 3), 0);
         CHECK.says(21, "LINES to such as are gone don't count");
@@ -215,6 +220,8 @@ public final class EdgesOfHalvesTest {
         CHECK.says(23, "WORTH 1 of a two, 2 of a three");
         CHECK.dues(Check.path(2)::pack, 1, 1);
         CHECK.dues(Check.whole(3)::pack, 2, 1);
+        CHECK.says(23, "a three of any POINTS");
+        CHECK.dues(Check.net(12, 0, 5, 5, 11, 11, 0)::pack, 2, 1);
         CHECK.says(23, "the fewest sets: a three, not two twos");
         CHECK.dues(Check.whole(4)::pack, 2, 1);
         CHECK.dues(Check.whole(5)::pack, 3, 2);

@@ -135,6 +135,16 @@ public final class EdgesOfSearchTest {
         CHECK.due(proves(x, 2, 0), 2);
         CHECK.due(proves(x, 2, 0, -1), 3);
         CHECK.due(proves(x, 2, 0, -1, -1), 0);
+        CHECK.says(28, "-1 that isn't right in the first branch, though it is in the second");
+        CHECK.due(proves(Check.star(3), 1, 0, -1), 2);
+        CHECK.due(proves(Check.star(3), 1, 0, -1, -1), 2);
+        CHECK.says(28, "k is 1 less in ONE WAY, at even depths and at odd ones");
+        CHECK.due(proves(Check.triangles(1), 2, 0, -1, -1), 2);
+        CHECK.due(proves(Check.net(8, 0, 1, 2, 3, 2, 4, 2, 5, 6, 7), 3, 0, 2, -1, -1, -1), 4);
+        CHECK.says(28, "k is less by as many as are TAKEN in THE OTHER WAY");
+        CHECK.due(proves(Check.star(3), 2, 0, 1), 2);
+        CHECK.due(proves(Check.net(5, 0, 1, 0, 2, 3, 4), 1, 0, -1, -1), 0);
+        CHECK.due(proves(Check.net(7, 0, 1, 0, 2, 3, 4, 4, 5, 5, 3), 3, 0, 3, -1, -1, -1), 3);
         CHECK.says(28, "one is too many");
         CHECK.due(proves(x, 2, 0, -1, -1, -1), 4);
         CHECK.due(proves(x, 1, -1, 0), 2);
@@ -143,9 +153,12 @@ public final class EdgesOfSearchTest {
         CHECK.due(proves(x, 2, 0, 3, -1, -1, -1), 0);
         CHECK.says(28, "not one that has gone");
         CHECK.due(proves(x, 2, 0, 0, -1, -1, -1), 2);
+        CHECK.due(proves(x, 2, 0, -1, 0, -1, -1), 3);
+        CHECK.due(proves(x, 2, 0, -1, 1, -1, -1), 3);
         CHECK.says(28, "not one without a LINE in the PART");
         CHECK.due(proves(Check.net(3, 0, 1), 0, 2), 1);
         CHECK.due(proves(Check.star(3), 0, 0, 1), 2);
+        CHECK.due(proves(Check.net(5, 0, 1, 2, 3, 3, 4), 0, 0, 2, 4, -1, -1, -1), 3);
         CHECK.says(28, "nothing else is right: no POINT, below -1");
         CHECK.all(1, p -> proves(x, 2, p, -1, -1), 4, 12, 31, 32, -2, LOW, HIGH);
         CHECK.all(1, p -> proves(Check.whole(12), 6, p, -1, -1), 12, 32, 43, -2);
@@ -180,6 +193,8 @@ public final class EdgesOfSearchTest {
         CHECK.dues(Check.path(3)::without, 1, 0, 1);
         CHECK.dues(Check.path(4)::without, 1, 1, 1, 1);
         CHECK.dues(Check.whole(12)::without, 10);
+        CHECK.says(29, "the POINT with most LINES need not be in a fewest COVER");
+        CHECK.due(Check.net(6, 1, 2, 2, 0, 0, 3, 3, 4).without(5), 2);
         CHECK.says(29, "the only POINT, one without LINES");
         CHECK.due(Check.net(1).without(0), 0);
         CHECK.due(Check.net(3, 0, 1).without(2), 1);
@@ -234,6 +249,8 @@ public final class EdgesOfSearchTest {
         CHECK.says(32, "without POINTS, without LINES nothing is paid, none is SPENT");
         CHECK.dues(new LinesTouched()::pays, 0, 0, 0);
         CHECK.dues(Check.net(12)::pays, 0, 0, 0);
+        CHECK.says(32, "POINTS between the two of a LINE pay nothing");
+        CHECK.dues(Check.net(4, 0, 3)::pays, 1, 9, 2);
         CHECK.says(32, "both ends are SPENT, if they have as much");
         CHECK.dues(Check.path(2)::pays, 1, 3, 2);
         CHECK.says(32, "as much as both have left, not as much as one had");

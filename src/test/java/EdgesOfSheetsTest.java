@@ -223,6 +223,7 @@ public final class EdgesOfSheetsTest {
         CHECK.says(48, "the first that isn't 0 to 2");
         CHECK.all(2, v -> judged(x, 0, v, 0), -1, 3, LOW, HIGH);
         CHECK.due(judged(x, 3, 3, 3), 1);
+        CHECK.all(1, v -> judged(Check.net(1), v), -1, 3, LOW, HIGH);
         CHECK.due(judged(x, 0, 2, -1), 3);
         CHECK.says(48, "the first that has no POINT");
         CHECK.due(judged(x, 0, 2, 0, 0), 4);

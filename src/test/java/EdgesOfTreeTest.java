@@ -61,6 +61,14 @@ public final class EdgesOfTreeTest {
         z.wipe();
         Check.feedAll(z, "()");
         CHECK.due(z.text(), 1);
+        Check.feedAll(z, "(55toll");
+        z.wipe();
+        Check.feedAll(z, "(5");
+        CHECK.due(z.text(), -102);
+        Check.feedAll(z, "(tolls");
+        z.wipe();
+        Check.feedAll(z, "(toll");
+        CHECK.due(z.text(), -105);
         CHECK.says(35, "THE TREE stays");
         z.feed('x', 1);
         CHECK.due(z.wipe(), 1);
@@ -92,6 +100,8 @@ public final class EdgesOfTreeTest {
             text("(" + words[kind].substring(1) + ")", -101);
             text("(" + words[kind].substring(0, words[kind].length() - 1) + ")", -101);
             text("(" + words[kind] + "s)", -101);
+            text("(x" + words[kind].substring(1) + ")", -101);
+            text("(" + words[kind].substring(0, words[kind].length() - 1) + "x)", -101);
         }
         text("(tree)", -101);
         text("(z)", -101);
@@ -189,6 +199,11 @@ public final class EdgesOfTreeTest {
         text(" ".repeat(80) + Check.bush(59), 60);
         text(" ".repeat(80) + "(" + "()".repeat(59) + "x", -299);
         text("(".repeat(20) + ")".repeat(20) + " ".repeat(159) + "x", -299);
+        text(" ".repeat(198) + "(5", -300);
+        text(" ".repeat(195) + "(toll", -300);
+        text(" ".repeat(197) + "(55", -298);
+        text("(" + "5".repeat(199), -101);
+        text("(" + "z".repeat(199), -101);
     }
 
     private static void textsAgain() {
@@ -234,6 +249,8 @@ public final class EdgesOfTreeTest {
         LinesTouched twos = grown("(()" + "(())".repeat(29) + ")");
         long ways = 1L << 29;
         CHECK.dues(twos::tree, 30, 2 * 68630377364883L + ways, ways + 1, 30, ways + 1, ways + 1);
+        CHECK.says(37, "as many as have fewest NODES, not as have one more");
+        CHECK.dues(grown("(()()(()))")::tree, 2, 14, 2, 2, 2, 3);
         CHECK.says(37, "20 open: a row of NODES");
         CHECK.dues(grown(Check.chain(20))::tree, 10, 17711, 11, 10, 11, 265);
         CHECK.says(37, "less COST by more NODES");

@@ -230,6 +230,23 @@ public final class RefusalsTest {
         }
     }
 
+    /** What was asked of another net leaves nothing behind: a fresh object answers alike. */
+    private static void askingOfAnother() {
+        int[][] deals = {{12, 5}, {0, 0}, {12, 10}, {1, 0}, {6, 8}, {12, 0}, {7, 5}, {2, 10}, {9, 2}, {3, 10}};
+        LinesTouched x = new LinesTouched();
+        for (int i = 0; i < deals.length; i++) {
+            LinesTouched fresh = new LinesTouched();
+            fresh.seed(x.count(4));
+            x.deal(deals[i][0], deals[i][1]);
+            fresh.deal(deals[i][0], deals[i][1]);
+            calls++;
+            if (!answers(x).equals(answers(fresh))) complain("what was asked of another net is seen");
+            if (x.count(4) != fresh.count(4)) complain("z is unlike");
+            // an object is good for 512 calls
+            if (i % 2 == 1) x = fresh;
+        }
+    }
+
     private static List<Long> answers(LinesTouched x) {
         List<Long> out = new ArrayList<>();
         for (int a = 0; a <= 4; a++) {
@@ -248,6 +265,7 @@ public final class RefusalsTest {
         otherRefusals();
         asking();
         askingTwice();
+        askingOfAnother();
         System.out.println("refusals: " + calls + " calls, "
                 + (wrong == 0 ? "none changed anything" : wrong + " are not as due"));
         if (wrong != 0) System.exit(1);
