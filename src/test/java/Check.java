@@ -88,6 +88,13 @@ final class Check {
         return x;
     }
 
+    /** Two of six points with all their lines: no longer refusal has been found. */
+    static LinesTouched twoSixes() {
+        LinesTouched x = net(12);
+        for (int a = 0; a < 12; a++) for (int b = a + 1; b < 12; b++) if (a / 6 == b / 6) x.line(a, b, 1);
+        return x;
+    }
+
     static LinesTouched triangles(int many) {
         LinesTouched x = net(3 * many);
         for (int i = 0; i < 3 * many; i += 3) {

@@ -31,9 +31,7 @@ public final class EdgesOfSearchTest {
         CHECK.says(25, "the first way is REFUSED, the second one finds");
         CHECK.dues(w -> Check.net(6, 0, 1, 0, 2, 1, 3, 1, 4, 2, 5, 0, 4).search(3, w), 1, 5, 7, 1, 3);
         CHECK.says(25, "many NODES: two of six POINTS with all their LINES");
-        LinesTouched two = new LinesTouched();
-        for (int i = 0; i < 12; i++) two.point(0, 1);
-        for (int a = 0; a < 12; a++) for (int b = a + 1; b < 12; b++) if (a / 6 == b / 6) two.line(a, b, 1);
+        LinesTouched two = Check.twoSixes();
         CHECK.dues(w -> two.search(9, w), 0, 33, NONE, 17, 7);
     }
 
@@ -100,9 +98,7 @@ public final class EdgesOfSearchTest {
         CHECK.due(x.write(1, 0, 32767), 1);
         CHECK.due(x.item(1, 0), 32767);
         CHECK.says(27, "the most NODES that were ever seen: two of six POINTS with all their LINES");
-        LinesTouched two = new LinesTouched();
-        for (int i = 0; i < 12; i++) two.point(0, 1);
-        for (int a = 0; a < 12; a++) for (int b = a + 1; b < 12; b++) if (a / 6 == b / 6) two.line(a, b, 1);
+        LinesTouched two = Check.twoSixes();
         CHECK.due(two.prove(2, 9), 33);
         CHECK.due(two.item(2, 32), -1);
         CHECK.due(two.item(2, 33), -12);
