@@ -114,6 +114,10 @@ public final class EdgesOfHalvesTest {
         CHECK.dues(Check.net(1)::crowns, 1, 1, 0);
         CHECK.says(20, "of several with most POINTS the least number");
         CHECK.dues(Check.path(2)::crowns, 2, 1, 2);
+        CHECK.says(20, "one CROWN of one POINT, the last");
+        LinesTouched hung = Check.whole(5);
+        for (int p = 1; p < 4; p++) hung.line(4, p, 0);
+        CHECK.dues(hung::crowns, 1, 16, 1);
         CHECK.says(20, "most POINTS, though a lesser number has fewer");
         CHECK.dues(Check.star(12)::crowns, 2047, 4094, 1);
     }
@@ -229,6 +233,9 @@ public final class EdgesOfHalvesTest {
         CHECK.dues(Check.net(6, 0, 1, 1, 2, 2, 0, 0, 3, 1, 4, 2, 5)::pack, 3, 3);
         CHECK.says(23, "no POINT in two sets");
         CHECK.dues(Check.star(12)::pack, 1, 1);
+        LinesTouched star = Check.star(12);
+        star.fewest(0);
+        CHECK.dues(star::pack, 1, 1);
         CHECK.says(23, "all 12 POINTS");
         CHECK.dues(Check.whole(12)::pack, 8, 4);
         CHECK.dues(Check.path(12)::pack, 6, 6);

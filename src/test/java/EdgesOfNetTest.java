@@ -304,6 +304,10 @@ public final class EdgesOfNetTest {
         CHECK.says(12, "without POINTS, without LINES it is that of none");
         CHECK.dues(new LinesTouched()::bare, 1, 0, 0);
         CHECK.dues(Check.net(12)::bare, 1, 0, 0);
+        LinesTouched x = Check.star(4);
+        CHECK.dues(x::bare, 2, 3, 14);
+        for (int p = 1; p < 4; p++) x.line(0, p, 0);
+        CHECK.dues(x::bare, 1, 0, 0);
         CHECK.says(12, "of several with so many the least number");
         CHECK.dues(Check.path(4)::bare, 3, 2, 5);
         CHECK.dues(Check.whole(12)::bare, 12, 11, 2047);
