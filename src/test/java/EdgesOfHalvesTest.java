@@ -24,6 +24,10 @@ public final class EdgesOfHalvesTest {
         CHECK.dues(Check.net(5, 0, 1, 1, 2, 0, 2, 3, 4)::halves, 5, 8, 7, 16);
         CHECK.says(14, "fewest together, though the first could have 0 otherwise");
         CHECK.dues(Check.star(12)::halves, 2, 4094, 0, 1);
+        CHECK.says(14, "fewest together, though pairs must be found by way of the last POINT, of all twelve");
+        CHECK.dues(Check.net(12, 0, 2, 0, 5, 1, 2, 1, 11, 3, 11)::halves, 6, 2011, 0, 2084);
+        CHECK.dues(Check.net(12, 0, 3, 0, 5, 0, 10, 1, 2, 1, 7, 2, 6, 3, 5, 3, 9, 4, 9, 4, 11, 7, 11, 8, 10, 8, 11)
+                ::halves, 12, 3682, 0, 413);
         CHECK.says(15, "0, 1, 2");
         CHECK.dues(Check.net(5, 0, 1, 1, 2, 0, 2, 3, 4)::half, 1, 1, 1, 0, 2, BAD);
         CHECK.says(15, "BAD: no POINT");

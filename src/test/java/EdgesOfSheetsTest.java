@@ -442,6 +442,24 @@ public final class EdgesOfSheetsTest {
         CHECK.due(y.count(4), z);
     }
 
+    private static void imageOfTwelve() {
+        LinesTouched x = new LinesTouched();
+        for (int p = 0; p < 12; p++) x.point(p % 6, 1 + p % 9);
+        for (int p = 0; p < 12; p++) x.line(p, (p + 1) % 12, 1);
+        CHECK.says(51, "KIND, WEIGHT and LINES of each of 12 POINTS");
+        CHECK.due(x.image(), 12);
+        for (int p = 0; p < 12; p++) {
+            x.change(p, 0, (p + 1) % 6);
+            x.change(p, 1, 1 + (p + 1) % 9);
+            x.line(p, (p + 1) % 12, 0);
+        }
+        CHECK.says(52, "KIND, WEIGHT and LINES of each of 12 POINTS");
+        CHECK.due(x.back(), 12);
+        CHECK.dues(p -> x.pointOf(p, 0), 0, 1, 2, 3, 4, 5, 0, 1, 2, 3, 4, 5, BAD);
+        CHECK.dues(p -> x.pointOf(p, 1), 1, 2, 3, 4, 5, 6, 7, 8, 9, 1, 2, 3, BAD);
+        CHECK.dues(p -> x.pointOf(p, 3), 2050, 5, 10, 20, 40, 80, 160, 320, 640, 1280, 2560, 1025, BAD);
+    }
+
     public static void main(String[] args) {
         sheets();
         numbers();
@@ -452,6 +470,7 @@ public final class EdgesOfSheetsTest {
         takenAsPoints();
         takenAsRows();
         images();
+        imageOfTwelve();
         CHECK.end(43, 52);
     }
 }
